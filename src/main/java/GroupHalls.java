@@ -16,7 +16,7 @@ public final class GroupHalls {
     private static final int PLACES = EDGE * EDGE * EDGE;
     private static final int NINES = 19683;
 
-    /** The key of the OPERATION that leaves all PLACES: digits 2 1 1, 1 2 1, 1 1 2 and no SHIFT. */
+    /** The OPERATION that leaves all PLACES: its digits are 2 1 1, 1 2 1, 1 1 2; it has no SHIFT. */
     private static final int UNIT_NINE = 16484;
     private static final int UNIT = UNIT_NINE * PLACES;
 

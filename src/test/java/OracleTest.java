@@ -1,3 +1,6 @@
+import java.util.ArrayList;
+import java.util.List;
+
 /** Long runs of calls, all kinds mixed, against the document's definitions done anew by Oracle. */
 public final class OracleTest {
     private static final int RUNS = 60;
@@ -39,6 +42,9 @@ public final class OracleTest {
         {"x+1/4,y+1/4,z"},
         {"-x+y,-z+y,y"},
         {"-x,y-x,z-x", "z,x,y"},
+        {"y,z,-x-y-z"},
+        {"y,x,z", "y,z,-x-y-z", "-x,-y,-z"},
+        {"y,x,z", "y,z,-x-y-z+1/4", "-x,-y,-z+1/2"},
     };
 
     private static final int[] PLACES_TRIED = {
@@ -219,6 +225,38 @@ public final class OracleTest {
         }
     }
 
+    private void small() {
+        groupOf();
+        for (int what = 0; what <= 6; what++) {
+            check.due("about(0, " + what + ")", oracle.about(0, what), halls.about(0, what));
+        }
+        int place = Xyz.place(23, 22, 19);
+        for (int what = -3; what <= 4; what++) {
+            check.due("orbit(0, " + place + ", " + what + ")", oracle.orbit(0, place, what),
+                halls.orbit(0, place, what));
+        }
+    }
+
+    /** Every MATRIX alone, then many pairs and threes of those that have a GROUP. */
+    private static void everyMatrix(Check check) {
+        List<Integer> good = new ArrayList<>();
+        for (int nine = -2; nine < 19690; nine++) {
+            OracleTest test = new OracleTest(nine, check);
+            test.choose(nine, nine % 3 == 0 ? Xyz.place(12, 0, 12) : 0);
+            test.small();
+            if (test.oracle.about(0, 0) > 1) {
+                good.add(nine);
+            }
+        }
+        for (int i = 0; i < 6000 && check.wrong() < 20; i++) {
+            OracleTest test = new OracleTest(i, check);
+            for (int n = 0; n < 2 + i % 2; n++) {
+                test.choose(good.get(test.below(good.size())), test.below(2) * Xyz.place(12, 12, 0));
+            }
+            test.small();
+        }
+    }
+
     public static void main(String[] args) {
         Check check = new Check();
         for (int run = 0; run < RUNS; run++) {
@@ -227,6 +265,7 @@ public final class OracleTest {
         for (int i = 0; i < KNOWN.length; i++) {
             new OracleTest(i, check).whole(KNOWN[i]);
         }
+        everyMatrix(check);
         check.end();
     }
 }

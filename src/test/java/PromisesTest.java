@@ -72,6 +72,7 @@ public final class PromisesTest {
         GroupHalls halls = new GroupHalls();
         due("choose below NINE", NONE, halls.choose(-1, 0));
         due("choose above NINE", NONE, halls.choose(19683, 0));
+        due("choose with a tenth digit", NONE, halls.choose(19683 + UNIT, 0));
         due("choose at LOW", NONE, halls.choose(LOW, 0));
         due("choose at HIGH", NONE, halls.choose(HIGH, 0));
         due("choose below PLACE", NONE, halls.choose(UNIT, -1));
@@ -98,7 +99,8 @@ public final class PromisesTest {
         due("none are chosen after NONE", 0, halls.group());
         due("exactly 192", 1, made(halls, "x+1/24,y,z", "x,y+1/8,z"));
         due("192 it is", 192, halls.about(1, 0));
-        due("193 and more", NONE, made(halls, "x+1/24,y,z", "x,y+1/12,z"));
+        due("216, the next that could be", NONE, made(halls, "x+1/24,y,z", "x,y+1/3,z", "x,y,z+1/3"));
+        due("288", NONE, made(halls, "x+1/24,y,z", "x,y+1/12,z"));
         due("384", NONE, made(halls, "x+1/2,y,z", "z,x,y", "-y,x,z", "-x,-y,-z"));
         due("13824", NONE, made(halls, "x+1/24,y,z", "x,y+1/24,z", "x,y,z+1/24"));
         due("Fm-3m", 2, made(halls, FULL_FACES));
@@ -259,6 +261,7 @@ public final class PromisesTest {
         due("find no OPERATION", NONE, halls.find(0, 0, 0));
         due("find above NINE", NONE, halls.find(0, 19683, 0));
         due("find below NINE", NONE, halls.find(0, -1, 0));
+        due("find where 32 bits come round", NONE, halls.find(0, UNIT + (1 << 23), 0));
         due("find above PLACE", NONE, halls.find(0, UNIT - 1, 13824));
         due("find below PLACE", NONE, halls.find(0, UNIT + 1, -13824));
         due("find far below PLACE", NONE, halls.find(0, UNIT, LOW));
@@ -413,6 +416,10 @@ public final class PromisesTest {
         due("below PLACE", NONE, halls.orbit(0, -1, -1));
         due("GROUP 1", NONE, halls.orbit(1, 0, -1));
         due("GROUP -1", NONE, halls.orbit(-1, 0, 0));
+        GroupHalls skew = new GroupHalls();
+        made(skew, "y,z,-x-y-z");
+        due("a row of three -1", 4, skew.orbit(0, Xyz.place(23, 23, 22), -1));
+        due("its lowest", Xyz.place(4, 23, 23), skew.orbit(0, Xyz.place(23, 23, 22), 0));
         made(halls, FULL_FACES);
         due("Fm-3m somewhere", 192, halls.orbit(1, Xyz.place(1, 3, 8), -1));
         due("Fm-3m last of it", Xyz.place(23, 21, 16), halls.orbit(1, Xyz.place(1, 3, 8), 191));
