@@ -11,7 +11,8 @@ import java.util.TreeSet;
 final class Oracle {
     static final int NONE = -1;
 
-    private static final String[] CLASSES = {
+    /** The document's rows of the CLASSES 1 .. 32. */
+    static final String[] CLASSES = {
         "", "0 0 0 0 1", "1", "0 0 0 0 0 1", "1 0 0 0 1 1", "3", "1 0 0 0 0 2", "3 0 0 0 1 3",
         "1 0 2", "1 0 0 0 0 0 0 2", "1 0 2 0 1 1 0 2", "5 0 2", "1 0 2 0 0 4", "3 0 0 0 0 2 0 2",
         "5 0 2 0 1 5 0 2", "0 2", "0 2 0 0 1 0 2", "3 2", "0 2 0 0 0 3", "3 2 0 0 1 3 2",

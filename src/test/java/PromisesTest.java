@@ -5,18 +5,6 @@ public final class PromisesTest {
     private static final int LOW = Integer.MIN_VALUE;
     private static final int HIGH = Integer.MAX_VALUE;
 
-    private static final String[][] CLASSES = {
-        {}, {"-x,-y,-z"}, {"-x,y,-z"}, {"x,-y,z"}, {"-x,y,-z", "-x,-y,-z"},
-        {"-x,-y,z", "-x,y,-z"}, {"-x,-y,z", "x,-y,z"}, {"-x,-y,z", "-x,y,-z", "-x,-y,-z"},
-        {"-y,x,z"}, {"y,-x,-z"}, {"-y,x,z", "-x,-y,-z"}, {"-y,x,z", "-x,y,-z"}, {"-y,x,z", "x,-y,z"},
-        {"y,-x,-z", "-x,y,-z"}, {"-y,x,z", "-x,y,-z", "-x,-y,-z"},
-        {"-y,x-y,z"}, {"-y,x-y,z", "-x,-y,-z"}, {"-y,x-y,z", "y,x,-z"}, {"-y,x-y,z", "-y,-x,z"},
-        {"-y,x-y,z", "y,x,-z", "-x,-y,-z"},
-        {"x-y,x,z"}, {"-y,x-y,z", "x,y,-z"}, {"x-y,x,z", "-x,-y,-z"}, {"x-y,x,z", "y,x,-z"},
-        {"x-y,x,z", "-y,-x,z"}, {"-y,x-y,z", "x,y,-z", "-y,-x,z"}, {"x-y,x,z", "y,x,-z", "-x,-y,-z"},
-        {"z,x,y", "-x,-y,z"}, {"z,x,y", "-x,-y,z", "-x,-y,-z"}, {"z,x,y", "-y,x,z"},
-        {"z,x,y", "y,-x,-z"}, {"z,x,y", "-y,x,z", "-x,-y,-z"}
-    };
     private static final int[] CLASS_SIZES = {
         1, 2, 2, 2, 4, 4, 4, 8, 4, 4, 8, 8, 8, 8, 16, 3, 6, 6, 6, 12, 6, 6, 12, 12, 12, 12, 24,
         12, 24, 24, 24, 48
@@ -31,29 +19,6 @@ public final class PromisesTest {
 
     private void due(String call, int want, int got) {
         check.due(call, want, got);
-    }
-
-    private static int made(GroupHalls halls, String... texts) {
-        for (String text : texts) {
-            Xyz op = new Xyz(text);
-            halls.choose(op.nine, op.shift);
-        }
-        return halls.group();
-    }
-
-    /** An object with all 40 GROUPS: 0 has the unit alone, 1 .. 39 have a mirror at different heights. */
-    private static GroupHalls full() {
-        GroupHalls halls = new GroupHalls();
-        halls.group();
-        for (int i = 0; i < 24; i++) {
-            halls.choose(new Xyz("x,y,-z").nine, i);
-            halls.group();
-        }
-        for (int i = 0; i < 15; i++) {
-            halls.choose(new Xyz("x,-y,z").nine, 24 * i);
-            halls.group();
-        }
-        return halls;
     }
 
     private void promise1() {
@@ -94,34 +59,34 @@ public final class PromisesTest {
 
     private void promise3() {
         GroupHalls halls = new GroupHalls();
-        due("group of an infinite order", NONE, made(halls, "x+y,y,z"));
-        due("group with a 2 in a square", NONE, made(halls, "x-z,x+y,x-y-z"));
+        due("group of an infinite order", NONE, Built.group(halls, "x+y,y,z"));
+        due("group with a 2 in a square", NONE, Built.group(halls, "x-z,x+y,x-y-z"));
         due("none are chosen after NONE", 0, halls.group());
-        due("exactly 192", 1, made(halls, "x+1/24,y,z", "x,y+1/8,z"));
+        due("exactly 192", 1, Built.group(halls, "x+1/24,y,z", "x,y+1/8,z"));
         due("192 it is", 192, halls.about(1, 0));
-        due("216, the next that could be", NONE, made(halls, "x+1/24,y,z", "x,y+1/3,z", "x,y,z+1/3"));
-        due("288", NONE, made(halls, "x+1/24,y,z", "x,y+1/12,z"));
-        due("384", NONE, made(halls, "x+1/2,y,z", "z,x,y", "-y,x,z", "-x,-y,-z"));
-        due("13824", NONE, made(halls, "x+1/24,y,z", "x,y+1/24,z", "x,y,z+1/24"));
-        due("Fm-3m", 2, made(halls, FULL_FACES));
+        due("216, the next that could be", NONE, Built.group(halls, "x+1/24,y,z", "x,y+1/3,z", "x,y,z+1/3"));
+        due("288", NONE, Built.group(halls, "x+1/24,y,z", "x,y+1/12,z"));
+        due("384", NONE, Built.group(halls, "x+1/2,y,z", "z,x,y", "-y,x,z", "-x,-y,-z"));
+        due("13824", NONE, Built.group(halls, "x+1/24,y,z", "x,y+1/24,z", "x,y,z+1/24"));
+        due("Fm-3m", 2, Built.group(halls, FULL_FACES));
         due("Fm-3m has 192", 192, halls.about(2, 0));
-        due("equal ones are one", 2, made(halls, "x+1/2,y+1/2,z", "-z,x,-y", "y,-x,z", "x,y+1/2,z+1/2",
+        due("equal ones are one", 2, Built.group(halls, "x+1/2,y+1/2,z", "-z,x,-y", "y,-x,z", "x,y+1/2,z+1/2",
             "-x,-y,-z"));
-        due("the unit chosen", 0, made(halls, "x,y,z", "x,y,z"));
-        due("one of two axes", 3, made(halls, "-x,-y,z"));
-        due("a screw is another", 4, made(halls, "-x,-y,z+1/2"));
-        GroupHalls all = full();
+        due("the unit chosen", 0, Built.group(halls, "x,y,z", "x,y,z"));
+        due("one of two axes", 3, Built.group(halls, "-x,-y,z"));
+        due("a screw is another", 4, Built.group(halls, "-x,-y,z+1/2"));
+        GroupHalls all = Built.filled(Built.MOST, "x,y,z");
         due("the 40th", 2, all.about(39, 0));
-        due("41st", NONE, made(all, "-x,-y,-z"));
+        due("41st", NONE, Built.group(all, "-x,-y,-z"));
         due("none are chosen after the 41st", 0, all.group());
-        due("a known one when there are 40", 1, made(all, "x,y,-z"));
+        due("a known one when there are 40", 1, Built.group(all, "x,y,-z"));
         due("no GROUP 40", NONE, all.about(40, 0));
     }
 
     private void promise4() {
-        for (int i = 0; i < CLASSES.length; i++) {
+        for (int i = 0; i < Built.CLASSES.length; i++) {
             GroupHalls halls = new GroupHalls();
-            made(halls, CLASSES[i]);
+            Built.group(halls, Built.CLASSES[i]);
             due("CLASS " + (i + 1), i + 1, halls.about(0, 4));
             due("OPERATIONS of CLASS " + (i + 1), CLASS_SIZES[i], halls.about(0, 0));
             due("MATRICES of CLASS " + (i + 1), CLASS_SIZES[i], halls.about(0, 1));
@@ -135,7 +100,7 @@ public final class PromisesTest {
         int[] centrings = {1, 2, 2, 2, 2, 4, 3, 3, 2};
         for (int i = 0; i < letters.length; i++) {
             GroupHalls halls = new GroupHalls();
-            made(halls, letters[i]);
+            Built.group(halls, letters[i]);
             due("LETTER " + i, i, halls.about(0, 3));
             due("CENTRINGS of LETTER " + i, centrings[i], halls.about(0, 2));
             due("MATRICES of LETTER " + i, 1, halls.about(0, 1));
@@ -147,7 +112,7 @@ public final class PromisesTest {
         };
         for (String[] other : others) {
             GroupHalls halls = new GroupHalls();
-            made(halls, other);
+            Built.group(halls, other);
             due("other LETTER of " + other[0], 8, halls.about(0, 3));
         }
         aboutSets();
@@ -155,23 +120,23 @@ public final class PromisesTest {
 
     private void aboutSets() {
         GroupHalls halls = new GroupHalls();
-        made(halls, FULL_CUBE);
+        Built.group(halls, FULL_CUBE);
         due("m-3m sets of ALIKE", 10, halls.about(0, 5));
         due("m-3m HALVES", 3, halls.about(0, 6));
-        made(halls, FULL_FACES);
+        Built.group(halls, FULL_FACES);
         due("Fm-3m MATRICES", 48, halls.about(1, 1));
         due("Fm-3m CENTRINGS", 4, halls.about(1, 2));
         due("Fm-3m LETTER", 5, halls.about(1, 3));
         due("Fm-3m CLASS", 32, halls.about(1, 4));
-        made(halls, "-x,-y,z", "-x,y,-z", "-x,-y,-z", "x+1/2,y,z", "x,y+1/2,z", "x,y,z+1/2");
+        Built.group(halls, "-x,-y,z", "-x,y,-z", "-x,-y,-z", "x+1/2,y,z", "x,y+1/2,z", "x,y,z+1/2");
         due("all of order 2: sets", 64, halls.about(2, 5));
         due("all of order 2: HALVES", 63, halls.about(2, 6));
-        made(halls, "-y,x,z");
+        Built.group(halls, "-y,x,z");
         due("4: sets", 4, halls.about(3, 5));
         due("4: HALVES", 1, halls.about(3, 6));
-        made(halls, "-y,x-y,z");
+        Built.group(halls, "-y,x-y,z");
         due("3: HALVES", 0, halls.about(4, 6));
-        made(halls, "-y,x,z", "-x,y,-z");
+        Built.group(halls, "-y,x,z", "-x,y,-z");
         due("422: sets", 5, halls.about(5, 5));
         due("422: HALVES", 3, halls.about(5, 6));
         for (int what : new int[] {-1, 7, LOW, HIGH}) {
@@ -184,7 +149,7 @@ public final class PromisesTest {
 
     private void promise5() {
         GroupHalls halls = new GroupHalls();
-        made(halls, "-x,-y,z+1/2", "-x,-y,-z");
+        Built.group(halls, "-x,-y,z+1/2", "-x,-y,-z");
         String[] order = {"-x,-y,-z", "-x,-y,z+1/2", "x,y,-z+1/2", "x,y,z"};
         int[] sorts = {-1, 2, -2, 1};
         int[] turns = {2, 2, 2, 1};
@@ -213,7 +178,7 @@ public final class PromisesTest {
         sortsAndTurns("-x+y,-x,-z", -6, 6);
         sortsAndTurns("x+1/24,y,z", 1, 24);
         sortsAndTurns("x,-y,z+1/8", -2, 8);
-        made(halls, FULL_CUBE);
+        Built.group(halls, FULL_CUBE);
         Xyz four = new Xyz("-y,x,z");
         due("ALIKE to a fourfold axis", 6, halls.of(1, halls.find(1, four.nine, 0), 4));
         due("ALIKE to the inversion", 1, halls.of(1, halls.find(1, new Xyz("-x,-y,-z").nine, 0), 4));
@@ -222,7 +187,7 @@ public final class PromisesTest {
 
     private void sortsAndTurns(String text, int sort, int turns) {
         GroupHalls halls = new GroupHalls();
-        made(halls, text);
+        Built.group(halls, text);
         Xyz op = new Xyz(text);
         int k = halls.find(0, op.nine, op.shift);
         due("SORT of " + text, sort, halls.of(0, k, 2));
@@ -231,7 +196,7 @@ public final class PromisesTest {
 
     private void promise6() {
         GroupHalls halls = new GroupHalls();
-        made(halls, "-y,x,z+1/4", "-x,y,-z");
+        Built.group(halls, "-y,x,z+1/4", "-x,y,-z");
         Xyz p = new Xyz("-y,x,z+1/4");
         Xyz q = new Xyz("-x,y,-z");
         Xyz pq = new Xyz("-y,-x,-z+1/4");
@@ -252,7 +217,7 @@ public final class PromisesTest {
 
     private void promise7() {
         GroupHalls halls = new GroupHalls();
-        made(halls, "x+1/24,y,z", "x,y+1/8,z");
+        Built.group(halls, "x+1/24,y,z", "x,y+1/8,z");
         for (int k = 0; k < 192; k++) {
             due("find " + k, k, halls.find(0, halls.of(0, k, 0), halls.of(0, k, 1)));
         }
@@ -272,7 +237,7 @@ public final class PromisesTest {
 
     private void promise8() {
         GroupHalls halls = new GroupHalls();
-        made(halls, "-x,-y,z", "-x,y,-z");
+        Built.group(halls, "-x,-y,z", "-x,y,-z");
         // In ORDER: -x,-y,z; -x,y,-z; x,-y,-z; x,y,z.
         due("half(0, 0)", 1, halls.half(0, 0));
         due("it has -x,-y,z", 0, halls.find(1, new Xyz("-x,-y,z").nine, 0));
@@ -289,7 +254,7 @@ public final class PromisesTest {
         due("half of one OPERATION", NONE, halls.half(4, 0));
         due("half(5, 0)", NONE, halls.half(5, 0));
         due("half(-1, 0)", NONE, halls.half(-1, 0));
-        int cube = made(halls, FULL_CUBE);
+        int cube = Built.group(halls, FULL_CUBE);
         int[] classes = {halls.about(halls.half(cube, 0), 4), halls.about(halls.half(cube, 1), 4),
             halls.about(halls.half(cube, 2), 4)};
         // -x,-y,-z comes first and is in m-3 alone; then -x,-z,-y, a twofold axis, is in 432.
@@ -301,7 +266,7 @@ public final class PromisesTest {
 
     private void fullHalf() {
         GroupHalls halls = new GroupHalls();
-        made(halls, "-x,-y,z", "-x,y,-z", "-x,-y,-z", "x+1/2,y,z", "x,y+1/2,z", "x,y,z+1/2");
+        Built.group(halls, "-x,-y,z", "-x,y,-z", "-x,-y,-z", "x+1/2,y,z", "x,y+1/2,z", "x,y,z+1/2");
         for (int k = 0; k < 39; k++) {
             due("HALF " + k, k + 1, halls.half(0, k));
         }
@@ -312,8 +277,8 @@ public final class PromisesTest {
 
     private void promise9() {
         GroupHalls halls = new GroupHalls();
-        int four = made(halls, "-y,x,z", "-x,-y,-z");
-        int two = made(halls, "-x,-y,z", "-x,y,-z");
+        int four = Built.group(halls, "-y,x,z", "-x,-y,-z");
+        int two = Built.group(halls, "-x,-y,z", "-x,y,-z");
         int both = halls.both(four, two);
         due("both of 4/m and 222", 2, both);
         due("both: OPERATIONS", 2, halls.about(both, 0));
@@ -321,18 +286,18 @@ public final class PromisesTest {
         due("both the other way", both, halls.both(two, four));
         due("both of one", four, halls.both(four, four));
         due("both with a part", both, halls.both(both, two));
-        int screw = made(halls, "-x,-y,z+1/2");
+        int screw = Built.group(halls, "-x,-y,z+1/2");
         due("both of axis and screw: the unit", 4, halls.both(screw, both));
         due("the unit", 1, halls.about(4, 0));
         due("both(0, 5)", NONE, halls.both(0, 5));
         due("both(5, 0)", NONE, halls.both(5, 0));
         due("both(-1, 0)", NONE, halls.both(-1, 0));
         due("both(0, LOW)", NONE, halls.both(0, LOW));
-        GroupHalls all = full();
+        GroupHalls all = Built.filled(Built.MOST, "x,y,z");
         due("both, known, when there are 40", 0, all.both(1, 2));
         GroupHalls most = new GroupHalls();
-        made(most, "-x,-y,z", "-x,y,-z");
-        made(most, "-x,-y,z", "-x,-y,-z");
+        Built.group(most, "-x,-y,z", "-x,y,-z");
+        Built.group(most, "-x,-y,z", "-x,-y,-z");
         for (int i = 0; i < 38; i++) {
             most.choose(new Xyz("-x,y,z").nine, 576 * (i % 24));
             most.choose(new Xyz("x,-y,z").nine, i < 24 ? 0 : 24);
@@ -344,37 +309,32 @@ public final class PromisesTest {
 
     private void promise10() {
         GroupHalls halls = new GroupHalls();
-        made(halls, FULL_CUBE);
+        Built.group(halls, FULL_CUBE);
         due("centre of m-3m", 1, halls.centre(0));
         due("is CLASS", 2, halls.about(1, 4));
         due("centre of an abelian one", 1, halls.centre(1));
-        made(halls, "-y,x,z", "-x,y,-z");
+        Built.group(halls, "-y,x,z", "-x,y,-z");
         due("centre of 422", 3, halls.centre(2));
         due("is the twofold axis", 0, halls.find(3, new Xyz("-x,-y,z").nine, 0));
-        made(halls, "-y,x-y,z", "y,x,-z");
+        Built.group(halls, "-y,x-y,z", "y,x,-z");
         due("centre of 32", 5, halls.centre(4));
         due("is the unit", 1, halls.about(5, 0));
-        made(halls, "-x,-y,-z", "x+1/4,y,z");
+        Built.group(halls, "-x,-y,-z", "x+1/4,y,z");
         due("centre with a CENTRING", 7, halls.centre(6));
         due("has the CENTRING of half an edge", 1, halls.find(7, UNIT, Xyz.place(12, 0, 0)));
         due("centre(8)", NONE, halls.centre(8));
         due("centre(-1)", NONE, halls.centre(-1));
         due("centre(HIGH)", NONE, halls.centre(HIGH));
-        GroupHalls most = new GroupHalls();
-        made(most, "-y,x,z", "-x,y,-z");
-        for (int i = 0; i < 39; i++) {
-            most.choose(new Xyz(i < 24 ? "-x,y,z" : "x,-y,z").nine, i < 24 ? 576 * i : 24 * (i - 24));
-            most.group();
-        }
+        GroupHalls most = Built.filled(Built.MOST, "-y,x,z", "-x,y,-z");
         due("centre as GROUP 40", NONE, most.centre(0));
         due("centre, known, when there are 40", 1, most.centre(1));
     }
 
     private void promise11() {
         GroupHalls halls = new GroupHalls();
-        made(halls, "-y,x,z");
-        made(halls, "-x,-y,z");
-        made(halls, "-x,y,-z");
+        Built.group(halls, "-y,x,z");
+        Built.group(halls, "-x,-y,z");
+        Built.group(halls, "-x,y,-z");
         halls.group();
         check.due("2 within 4", true, halls.within(1, 0));
         check.due("4 within 2", false, halls.within(0, 1));
@@ -390,7 +350,7 @@ public final class PromisesTest {
 
     private void promise12() {
         GroupHalls halls = new GroupHalls();
-        made(halls, "-y,x,z", "-x,y,-z");
+        Built.group(halls, "-y,x,z", "-x,y,-z");
         int[] orbit = {Xyz.place(1, 0, 5), Xyz.place(0, 1, 5), Xyz.place(23, 0, 5), Xyz.place(0, 23, 5),
             Xyz.place(1, 0, 19), Xyz.place(0, 1, 19), Xyz.place(23, 0, 19), Xyz.place(0, 23, 19)};
         java.util.Arrays.sort(orbit);
@@ -417,10 +377,10 @@ public final class PromisesTest {
         due("GROUP 1", NONE, halls.orbit(1, 0, -1));
         due("GROUP -1", NONE, halls.orbit(-1, 0, 0));
         GroupHalls skew = new GroupHalls();
-        made(skew, "y,z,-x-y-z");
+        Built.group(skew, "y,z,-x-y-z");
         due("a row of three -1", 4, skew.orbit(0, Xyz.place(23, 23, 22), -1));
         due("its lowest", Xyz.place(4, 23, 23), skew.orbit(0, Xyz.place(23, 23, 22), 0));
-        made(halls, FULL_FACES);
+        Built.group(halls, FULL_FACES);
         due("Fm-3m somewhere", 192, halls.orbit(1, Xyz.place(1, 3, 8), -1));
         due("Fm-3m last of it", Xyz.place(23, 21, 16), halls.orbit(1, Xyz.place(1, 3, 8), 191));
         due("Fm-3m at the corner", 4, halls.orbit(1, 0, -1));
@@ -431,7 +391,7 @@ public final class PromisesTest {
 
     private void promise13() {
         GroupHalls halls = new GroupHalls();
-        made(halls, FULL_FACES);
+        Built.group(halls, FULL_FACES);
         int keepers = halls.keepers(0, Xyz.place("1/4,1/4,1/4"));
         due("keepers of 1/4,1/4,1/4", 1, keepers);
         due("their CLASS", 31, halls.about(1, 4));
@@ -448,12 +408,7 @@ public final class PromisesTest {
         due("LOW PLACE", NONE, halls.keepers(0, LOW));
         due("GROUP 4", NONE, halls.keepers(4, 0));
         due("GROUP -1", NONE, halls.keepers(-1, 0));
-        GroupHalls most = new GroupHalls();
-        made(most, "-y,x,z", "-x,y,-z");
-        for (int i = 0; i < 39; i++) {
-            most.choose(new Xyz(i < 24 ? "-x,y,z" : "x,-y,z").nine, i < 24 ? 576 * i : 24 * (i - 24));
-            most.group();
-        }
+        GroupHalls most = Built.filled(Built.MOST, "-y,x,z", "-x,y,-z");
         due("keepers as GROUP 40", NONE, most.keepers(0, 5));
         due("keepers, known, when there are 40", 0, most.keepers(0, 0));
     }
