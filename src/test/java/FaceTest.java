@@ -59,6 +59,62 @@ public final class FaceTest {
         }
     }
 
+    /** Rules 1, 5 and 11: private names, static fields, parameters, fields and how many classes. */
+    private void shape() {
+        Set<String> names = new TreeSet<>();
+        for (String told : FACE) {
+            names.add(told.substring(told.indexOf(' ') + 1, told.indexOf('(')));
+        }
+        Class<?>[] insides = GroupHalls.class.getDeclaredClasses();
+        check.due("the file has at most twelve classes", true, insides.length + 1 <= 12);
+        shapeOf(GroupHalls.class, Set.of());
+        for (Class<?> inside : insides) {
+            check.due(inside + " has no class inside", 0, inside.getDeclaredClasses().length);
+            shapeOf(inside, names);
+        }
+    }
+
+    private void shapeOf(Class<?> type, Set<String> publicNames) {
+        int fields = 0;
+        for (Field field : type.getDeclaredFields()) {
+            boolean isStatic = Modifier.isStatic(field.getModifiers());
+            fields += isStatic ? 0 : 1;
+            if (isStatic) {
+                check.due(field + " is final", true, Modifier.isFinal(field.getModifiers()));
+                check.due(field + " is a constant or a row written out", true,
+                    field.getType() == int.class || field.getType() == int[].class);
+            }
+        }
+        check.due(type + " has at most twenty fields", true, fields <= 20);
+        for (Method method : type.getDeclaredMethods()) {
+            check.due(method + " takes at most seven", true, method.getParameterCount() <= 7);
+            check.due(method + " is private and bears a public name", false,
+                Modifier.isPrivate(method.getModifiers()) && publicNames.contains(method.getName()));
+        }
+        for (Constructor<?> constructor : type.getDeclaredConstructors()) {
+            check.due(constructor + " takes at most seven", true, constructor.getParameterCount() <= 7);
+        }
+    }
+
+    /** Rule 11: a method begins and ends with a line of the same indent, 4 or 8. */
+    private void lengths(String text) {
+        String[] lines = text.split("\n", -1);
+        int methods = 0;
+        for (int i = 0; i < lines.length; i++) {
+            if (!lines[i].matches("( {4}| {8})[^ =].*\\) \\{") || lines[i].matches(" *(if|for|while|switch)\\b.*")) {
+                continue;
+            }
+            String end = lines[i].replaceAll("[^ ].*", "") + "}";
+            int last = i + 1;
+            while (last < lines.length && !lines[last].equals(end)) {
+                last++;
+            }
+            methods++;
+            check.due(lines[i].trim() + " is short", true, last - i + 1 <= 60);
+        }
+        check.due("methods were seen", true, methods > 50);
+    }
+
     private void source() throws java.io.IOException {
         String text = Files.readString(Path.of("src/main/java/GroupHalls.java"))
             .replaceAll("(?s)/\\*.*?\\*/", "").replaceAll("//[^\n]*", "");
@@ -69,11 +125,13 @@ public final class FaceTest {
             check.due("the source has " + words.group(), 0, 1);
         }
         check.due("the source is there", true, text.contains("class GroupHalls"));
+        lengths(text);
     }
 
     public static void main(String[] args) throws Exception {
         FaceTest test = new FaceTest();
         test.members();
+        test.shape();
         test.source();
         test.check.end();
     }
